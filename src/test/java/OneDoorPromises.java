@@ -127,6 +127,9 @@ public final class OneDoorPromises {
         fault("h1;p0 0 51;", 8);
         fault("h1;p0 0 50 0;", 11);
         fault("ht1;", 0);
+        fault("ha1;", 0);
+        fault("hz1;", 0);
+        fault("hz", 0);
         fault("h1;x1;", 3);
         fault("h1;;", 3);
         fault(";", 0);
