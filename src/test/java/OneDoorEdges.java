@@ -554,7 +554,7 @@ public final class OneDoorEdges {
             door(2) = NONE | house(0, 4) = 0 | house(1, 4) = 2 | house(2, 4) = 0 | house(3, 4) = 3 | door(3) = 2
             house(2, 4) = 0 | house(1, 4) = 2
             """);
-        edge(5, "goes in by one of the DOORS, then from HOUSE to HOUSE: none above it, none below it", "h9;h1;h2;h5;h9;", """
+        edge(5, "goes in by one of the DOORS, then from HOUSE to HOUSE: none beyond it", "h9;h1;h2;h5;h9;", """
             door(3) = NONE | house(0, 4) = 0 | house(1, 4) = 7 | house(2, 4) = 5 | house(3, 4) = 0
             house(4, 4) = 5
             """);
@@ -1236,6 +1236,9 @@ public final class OneDoorEdges {
             keep(0) = 0 | keep(1) = 0 | back(-1) = BAD | back(2) = BAD | back(LOW) = BAD | back(HIGH) = BAD
             back(0) = 0 | back(1) = 0
             """);
+        edge(26, "the first of these: BAD, STATE", FIVE, """
+            back(2) = BAD | back(-1) = BAD | back(LOW) = BAD | back(HIGH) = BAD | back(0) = STATE
+            """);
         edge(26, "STATE: none was kept", FIVE, """
             back(0) = STATE | back(1) = STATE | keep(1) = 0 | back(0) = STATE | back(1) = 0 | back(2) = BAD
             """);
@@ -1257,7 +1260,8 @@ public final class OneDoorEdges {
         edge(26, "what may be UNDONE: none, ten of eleven", FIVE, """
             keep(0) = 0 | door(1) = NONE | 9 * door(2) = 2 | door(3) = 2 | keep(1) = 0 | count(5) = 10
             back(0) = 0 | count(5) = 0 | undo() = STATE | shuts(0, 1) = 1 | back(1) = 0 | count(5) = 10
-            undo() = 9 | now(3) = 2 | 9 * undo() = 0 | now(3) = 1 | undo() = STATE | back(1) = 0 | count(5) = 10 | now(3) = 3
+            undo() = 9 | now(3) = 2 | 9 * undo() = 0 | now(3) = 1 | undo() = STATE | back(1) = 0 | count(5) = 10
+            now(3) = 3
             """);
         edge(26, "what may be UNDONE, as it was ahead of each", FIVE, """
             shuts(0, 1) = 1 | door(1) = NONE | steps(2, 0) = 3 | keep(0) = 5 | 3 * undo() = 0
