@@ -5,6 +5,7 @@ import java.util.Arrays;
 import java.util.HashMap;
 import java.util.List;
 import java.util.Map;
+import java.util.Random;
 import java.util.Set;
 
 /**
@@ -15,6 +16,9 @@ import java.util.Set;
  *
  * <p>Wherever a call is refused, or only asks, the calls so far are made again on two new objects, one of them with
  * that call behind, and both must then answer all alike: the street, what may be undone, both images, the text.
+ *
+ * <p>Each row is looked at once more as the 512th call of an object: one that was busy with another street until then,
+ * and has read this one anew.
  */
 public final class OneDoorEdges {
     private static final int MOST_CALLS = 512;
@@ -219,23 +223,46 @@ public final class OneDoorEdges {
         for (char c : text.toCharArray()) s.ask("type", c);
     }
 
-    private static void row(Street s, String told) {
-        int is = told.lastIndexOf(" = ");
-        String answer = told.substring(is + 3).trim();
-        String asked = told.substring(0, is).trim();
-        int times = 1;
-        if (asked.startsWith("tell ")) {
-            typeAll(s, asked.substring(asked.indexOf('"') + 1, asked.lastIndexOf('"')));
-            asked = "street()";
-        } else if (asked.indexOf('*') > 0) {
-            times = Integer.parseInt(asked.substring(0, asked.indexOf('*')).trim());
-            asked = asked.substring(asked.indexOf('*') + 1).trim();
+    /** A row: how often which call is made, what is typed ahead of it, and the answer that is due at last. */
+    private record Row(String typed, int times, Call call, String answer) {
+        static Row read(String told) {
+            int is = told.lastIndexOf(" = ");
+            String answer = told.substring(is + 3).trim();
+            String asked = told.substring(0, is).trim();
+            if (asked.startsWith("tell ")) {
+                String typed = asked.substring(asked.indexOf('"') + 1, asked.lastIndexOf('"'));
+                return new Row(typed, 1, Call.of("street"), answer);
+            }
+            int star = asked.indexOf('*');
+            if (star < 0) return new Row("", 1, Call.read(asked), answer);
+            int times = Integer.parseInt(asked.substring(0, star).trim());
+            return new Row("", times, Call.read(asked.substring(star + 1).trim()), answer);
         }
-        Call call = Call.read(asked);
-        for (int i = 1; i < times; i++) s.ask(call);
-        List<Call> before = new ArrayList<>(s.past);
-        due(s, call.toString(), s.ask(call), number(answer));
-        if (REFUSALS.contains(answer.split(" ")[0]) || QUESTIONS.contains(call.name)) nothingChanged(before, call);
+
+        int calls() {
+            return typed.length() + times;
+        }
+
+        /** All calls of it but the last one. */
+        void begin(Street s) {
+            typeAll(s, typed);
+            for (int i = 1; i < times; i++) s.ask(call);
+        }
+
+        boolean changesNothing() {
+            return REFUSALS.contains(answer.split(" ")[0]) || QUESTIONS.contains(call.name);
+        }
+    }
+
+    private static List<Row> read(String rows) {
+        List<Row> all = new ArrayList<>();
+        for (String line : rows.split("\n")) {
+            int why = line.indexOf("//");
+            for (String told : (why < 0 ? line : line.substring(0, why)).split("[|]")) {
+                if (!told.isBlank()) all.add(Row.read(told.trim()));
+            }
+        }
+        return all;
     }
 
     private static Street edge(int number, String said, String text, String rows) {
@@ -248,14 +275,57 @@ public final class OneDoorEdges {
             long items = s.ask("street");
             if (items < 0) tell("the test's own text '" + text + "' has a fault: " + items);
         }
-        for (String line : rows.split("\n")) {
-            int why = line.indexOf("//");
-            for (String told : (why < 0 ? line : line.substring(0, why)).split("[|]")) {
-                if (!told.isBlank()) row(s, told.trim());
-            }
+        List<Row> all = read(rows);
+        for (Row row : all) {
+            row.begin(s);
+            List<Call> before = new ArrayList<>(s.past);
+            due(s, row.call.toString(), s.ask(row.call), number(row.answer));
+            if (row.changesNothing()) nothingChanged(before, row.call);
         }
         if (s.room < 0) tell("the test makes more calls than an object is used for: " + s.past.size());
+        for (int n = 1; n <= all.size(); n++) late(text, all.subList(0, n));
         return s;
+    }
+
+    // ---- the same, late
+
+    /** The last of the rows is the last call that the object may get. */
+    private static void late(String text, List<Row> rows) {
+        int calls = text.length() + 1;
+        for (Row row : rows) calls += row.calls();
+        Street s = new Street();
+        long traced = busy(s, MOST_CALLS - calls);
+        typeAll(s, text);
+        s.ask("street");
+        for (Row row : rows) {
+            row.begin(s);
+            // Nothing sets THE TRACE back.
+            long want = number(row.answer) + (row.call.name.equals("trace") ? traced : 0);
+            due(s, "late " + row.call, s.ask(row.call), want);
+        }
+        if (s.room != 0) tell("late ones end at call " + s.past.size());
+    }
+
+    /** So many calls on a full street, as they come; THE TEXT is empty behind them. What THE TRACE is then. */
+    private static long busy(Street s, int calls) {
+        Random random = new Random(calls);
+        if (calls > MOST.length() + 2) {
+            typeAll(s, MOST);
+            s.ask("street");
+        }
+        while (s.past.size() < calls - 2) s.ask(anyCall(random));
+        if (calls > 0) s.ask("clear");
+        return calls > 1 ? s.ask("trace") : 0;
+    }
+
+    private static Call anyCall(Random random) {
+        String[] changing = {
+            "steps 6 3", "steps 6 3", "steps 6 3", "shuts 9 2", "exchanges 6 6", "door 9", "calms 6", "undo", "hats 9 99",
+            "keep 2", "back 2", "mark 6 9", "type 255", "homes 6", "now 8"};
+        String[] parts = changing[random.nextInt(changing.length)].split(" ");
+        int[] numbers = new int[parts.length - 1];
+        for (int i = 0; i < numbers.length; i++) numbers[i] = random.nextInt(Integer.parseInt(parts[i + 1]));
+        return Call.of(parts[0], numbers);
     }
 
     // ---- 1 .. 4: the street
@@ -487,15 +557,15 @@ public final class OneDoorEdges {
     }
 
     private static void oneByte(String ahead, int c, int want) {
-        promise = 4;
-        words = "TOKENS are letters a .. z side by side, NUMBERS and ;";
-        tests[4]++;
-        Street s = new Street();
-        typeAll(s, ahead);
-        s.ask("type", c);
-        List<Call> before = new ArrayList<>(s.past);
-        due(s, "street() behind '" + ahead + "' and byte " + c, s.ask("street"), want);
-        if (want < 0) nothingChanged(before, Call.of("street"));
+        StringBuilder rows = new StringBuilder();
+        for (int i = 0; i < ahead.length(); i++) rows.append(typed(ahead.charAt(i), i + 1));
+        rows.append(typed(c, ahead.length() + 1));
+        rows.append("street() = ").append(want < 0 ? "FAULT " + (-10 - want) : "" + want);
+        edge(4, "TOKENS are letters a .. z side by side, NUMBERS and ;", EMPTY, rows.toString());
+    }
+
+    private static String typed(int c, int size) {
+        return "type(" + c + ") = " + size + "\n";
     }
 
     private static void readAnew() {

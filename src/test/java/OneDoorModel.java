@@ -5,8 +5,9 @@ import java.util.List;
 import java.util.Random;
 
 /**
- * Long runs of calls, drawn from fixed seeds, on OneDoor and on a slow model side by side. The model follows the
- * document's words one by one: lists for ways, a row of minutes for each walk, all orders, all subsets.
+ * Runs of 512 calls, as many as an object is used for, drawn from fixed seeds, on OneDoor and on a slow model side by
+ * side. The model follows the document's words one by one: lists for ways, a row of minutes for each walk, all orders,
+ * all subsets.
  */
 public final class OneDoorModel {
     static final int BAD = -1, STATE = -2, FULL = -3, NONE = -9, NO = -1000000, STREET = -5;
@@ -559,8 +560,12 @@ public final class OneDoorModel {
 
     // ---- the runs
 
+    private static final int MOST_CALLS = 512;
+
     private final Random random;
     private final int run;
+    /** How many calls of a hundred do something, and what most of these do (none, if beyond all). */
+    private final int doing, mostly;
     private final OneDoor x = new OneDoor();
     private final Model m = new Model();
     private final StringBuilder log = new StringBuilder();
@@ -570,6 +575,12 @@ public final class OneDoorModel {
     private OneDoorModel(int run) {
         this.run = run;
         this.random = new Random(7919L * run + 13);
+        this.doing = 5 + random.nextInt(91);
+        this.mostly = random.nextInt(20);
+    }
+
+    private int room() {
+        return MOST_CALLS - calls;
     }
 
     private void due(String call, long got, long want) {
@@ -640,18 +651,19 @@ public final class OneDoorModel {
         return s.toString();
     }
 
+    private void typeOne(int c) {
+        if (room() > 0) due("type(" + c + ")", x.type(c), m.type(c));
+    }
+
     private void typeAll(String text) {
-        for (char c : text.toCharArray()) due("type(" + (int) c + ")", x.type(c), m.type(c));
+        for (char c : text.toCharArray()) typeOne(c);
     }
 
     private void tell() {
         typeAll(anyText());
-        if (random.nextInt(20) == 0) {
-            int c = near(256);
-            due("type(" + c + ")", x.type(c), m.type(c));
-        }
-        due("street()", x.street(), m.street());
-        if (random.nextInt(2) == 0) due("clear()", x.clear(), m.clear());
+        if (random.nextInt(20) == 0) typeOne(near(256));
+        if (room() > 0) due("street()", x.street(), m.street());
+        if (room() > 0 && random.nextInt(2) == 0) due("clear()", x.clear(), m.clear());
     }
 
     private void act() {
@@ -659,7 +671,7 @@ public final class OneDoorModel {
         int h = near(m.halls.size());
         int w = near(3);
         int i = near(2);
-        switch (random.nextInt(10)) {
+        switch (mostly < 10 && random.nextInt(4) > 0 ? mostly : random.nextInt(10)) {
             case 0, 1, 2, 3:
                 due("steps(" + p + ", " + w + ")", x.steps(p, w), m.steps(p, w));
                 break;
@@ -702,8 +714,8 @@ public final class OneDoorModel {
             case 8:
                 int minute = near(random.nextInt(2) == 0 ? 100 : 20);
                 due("hats(" + h + ", " + minute + ")", x.hats(h, minute), m.hats(h, minute));
-                due("who()", x.who(), m.who());
-                if (random.nextInt(3) == 0) due("forget()", x.forget(), m.forget());
+                if (room() > 0) due("who()", x.who(), m.who());
+                if (room() > 0 && random.nextInt(3) == 0) due("forget()", x.forget(), m.forget());
                 break;
             case 9: due("bread()", x.bread(), m.bread()); break;
             case 10:
@@ -717,23 +729,24 @@ public final class OneDoorModel {
             case 12:
                 int kind = near(6);
                 due("mark(" + kind + ", " + h + ")", x.mark(kind, h), m.mark(kind, h));
-                due("trace()", x.trace(), m.trace);
+                if (room() > 0) due("trace()", x.trace(), m.trace);
                 break;
             default: due("count(" + w + ")", x.count(w), m.count(w)); break;
         }
     }
 
-    /** Everything that shows the state, so that a refused call that changed some of it is seen. */
+    /** Everything that shows the state, as far as there is room, so that a refused call that changed some of it is seen. */
     private void look() {
-        for (int h = 0; h < m.halls.size(); h++) {
-            for (int w = 0; w < 5; w++) due("house(" + h + ", " + w + ")", x.house(h, w), m.house(h, w));
+        for (int i = 0; i < 5 * m.halls.size() && room() > 0; i++) {
+            int h = i / 5, w = i % 5;
+            due("house(" + h + ", " + w + ")", x.house(h, w), m.house(h, w));
         }
-        for (int p = 0; p < m.people.size(); p++) {
-            for (int w = 0; w < 5; w++) due("person(" + p + ", " + w + ")", x.person(p, w), m.person(p, w));
+        for (int i = 0; i < 5 * m.people.size() && room() > 0; i++) {
+            int p = i / 5, w = i % 5;
+            due("person(" + p + ", " + w + ")", x.person(p, w), m.person(p, w));
         }
-        for (int w = 0; w < 8; w++) due("now(" + w + ")", x.now(w), m.now(w));
-        for (int w = 0; w < 7; w++) due("count(" + w + ")", x.count(w), m.count(w));
-        due("trace()", x.trace(), m.trace);
+        for (int w = 0; w < 8 && room() > 0; w++) due("now(" + w + ")", x.now(w), m.now(w));
+        for (int w = 0; w < 7 && room() > 0; w++) due("count(" + w + ")", x.count(w), m.count(w));
     }
 
     private int go() {
@@ -741,19 +754,30 @@ public final class OneDoorModel {
             typeAll(goodText());
             due("street()", x.street(), m.street());
         }
-        while (calls < 430 && wrong == 0) {
+        int lookAt = random.nextInt(2) == 0 ? 91 : 0;
+        while (room() > lookAt && wrong == 0) {
             int roll = random.nextInt(200);
             if (roll == 0) tell();
-            else if (roll < 100) act();
+            else if (random.nextInt(100) < doing) act();
             else ask();
         }
         if (wrong == 0) look();
-        return wrong;
+        return end();
     }
 
-    /** Texts alone, many of them spoiled, within the calls that one object may get. */
+    /** Texts alone, many of them spoiled. */
     private int goTexts() {
-        while (calls < 330 && wrong == 0) tell();
+        while (room() > 0 && wrong == 0) tell();
+        return end();
+    }
+
+    /** What room there is left goes to questions, so that the last call is reached. */
+    private int end() {
+        while (room() > 0 && wrong == 0) ask();
+        if (room() != 0 && wrong == 0) {
+            wrong++;
+            System.out.println("run " + run + " made " + calls + " calls");
+        }
         return wrong;
     }
 
