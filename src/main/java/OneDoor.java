@@ -708,6 +708,9 @@ public final class OneDoor {
 
     /** What ways and days bring. A way is the houses gone through, as bits. */
     private static final class Plan {
+        /** Six people of nine errands pass far fewer. */
+        private static final int BEYOND_ALL = 1000000;
+
         private final Told told;
         private final Now state;
         private final int[] cost = new int[MOST_HOUSES];
@@ -874,7 +877,7 @@ public final class OneDoor {
             for (int p = 0; p < told.people; p++) {
                 left[state.home[p]]++;
             }
-            fewest = Integer.MAX_VALUE;
+            fewest = BEYOND_ALL;
             giveFrom(0, 0);
         }
 

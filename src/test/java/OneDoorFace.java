@@ -95,8 +95,20 @@ public final class OneDoorFace {
             hold(!m.find(), "barred: " + word);
         }
         Matcher calls = Pattern.compile("\\b(Math|Integer|Long|System|Arrays|String|List)\\.(\\w+)").matcher(code);
-        Set<String> listed = Set.of("Math.max", "Math.min", "Integer.bitCount", "Integer.MAX_VALUE", "System.arraycopy");
+        Set<String> listed = Set.of("Math.max", "Math.min", "Integer.bitCount", "System.arraycopy");
         while (calls.find()) hold(listed.contains(calls.group()), "rule 4: " + calls.group());
+        room(code);
+    }
+
+    /** Rule 12: all is made with the object itself, so however many calls a run has, it makes no more. */
+    private static void room(String code) {
+        String names = "OneDoor|Told|Reader|Now|Life|Plan|Hall|Kitchen|Bath|Piano|Curtain|Attic";
+        String calls = code
+            .replaceAll("(?ms)^( +)(public )?(" + names + ")\\([^)]*\\) \\{$.*?^\\1\\}$", "")
+            .replaceAll("(?m)^ +(private )?final [^=(]* = new [^;]*;$", "");
+        Matcher made = Pattern.compile(".*\\bnew\\b.*").matcher(calls);
+        while (made.find()) hold(false, "a call makes an object: " + made.group().trim());
+        hold(calls.contains("void giveFrom("), "the methods are not looked at");
     }
 
     public static void main(String[] args) throws Exception {
